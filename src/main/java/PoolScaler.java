@@ -1455,7 +1455,6 @@ public final class PoolScaler {
             text = bytes;
             length = Math.min(count, bytes.length);
             tokenEnd = 0;
-            told = 0;
             error = NO_ERROR;
             errorAt = NONE;
             read.clear();

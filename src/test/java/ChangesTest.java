@@ -309,5 +309,10 @@ final class ChangesTest {
         CHECKS.due("55: its size", 2, () -> x.pool(0, 3));
         x.pause(0, true);
         CHECKS.due("55: paused", 3, () -> x.hurry(0));
+        PoolScaler y = Checks.pools("pool 1 9 10;cool 9 9;load 90 0 0 0;window 1;");
+        y.run(1);
+        CHECKS.due("55: it shrinks at once", 1, () -> y.hurry(0));
+        CHECKS.due("55: COOLDOWN begins", 8, () -> y.coolLeft(0, false));
+        CHECKS.due("55: COOLUP does not", 7, () -> y.coolLeft(0, true));
     }
 }

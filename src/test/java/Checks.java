@@ -85,6 +85,53 @@ final class Checks {
         return text.toString();
     }
 
+    /** All that the questions tell of what is, but for the changes that can be undone. */
+    static String picture(PoolScaler x) {
+        StringBuilder text = new StringBuilder();
+        for (int what = 0; what < 5; what++) {
+            text.append(x.count(what)).append(' ');
+        }
+        for (int i = 0; i < x.count(0); i++) {
+            addPool(text.append('\n'), x, i);
+        }
+        text.append("\nevents");
+        for (int back = 0; back < Math.min(60, x.count(4)); back++) {
+            for (int what = 0; what < 4; what++) {
+                text.append(what == 0 ? " " : ".").append(x.event(back, what));
+            }
+        }
+        return text.toString();
+    }
+
+    private static void addPool(StringBuilder text, PoolScaler x, int pool) {
+        for (int what = 0; what < 21; what++) {
+            text.append(x.pool(pool, what)).append(' ');
+        }
+        for (int i = 0; i < x.pool(pool, 3); i++) {
+            int member = x.memberAt(pool, i);
+            text.append(member);
+            for (int what = 0; what < 5; what++) {
+                text.append('.').append(x.member(member, what));
+            }
+            text.append(' ');
+        }
+        for (int back = 0; back < Math.min(24, x.count(1)); back++) {
+            text.append(x.demand(pool, back)).append(',');
+        }
+        for (int ahead = 0; ahead < 24; ahead++) {
+            text.append(x.planned(pool, ahead)).append(';');
+        }
+        for (int decision = 0; decision < 6; decision++) {
+            text.append(x.decisions(pool, decision)).append('-');
+        }
+        text.append(' ').append(x.forecast(pool)).append(' ').append(x.wanted(pool)).append(' ').append(x.meanError(pool));
+        text.append(' ').append(x.coolLeft(pool, true)).append(' ').append(x.coolLeft(pool, false));
+        text.append(' ').append(x.served(pool)).append(' ').append(x.missed(pool)).append(' ').append(x.cost(pool));
+        text.append(' ').append(x.used(pool)).append(' ').append(x.peak(pool)).append(' ').append(x.longestMiss(pool));
+        // The errors of the forecasts that were made already, and the row of misses that goes on
+        text.append(' ').append(x.errorsWith(pool, 0, 9)).append(' ').append(x.missedIn(pool, 9));
+    }
+
     /** The decisions of a pool in so many ticks, one sign each. */
     static String decisions(PoolScaler x, int pool, int ticks) {
         StringBuilder text = new StringBuilder();

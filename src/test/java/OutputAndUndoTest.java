@@ -6,6 +6,7 @@ final class OutputAndUndoTest {
         output();
         undo();
         undoOfEachChange();
+        undoBringsAllBack();
         atMostTen();
         saving();
         CHECKS.end();
@@ -119,6 +120,50 @@ final class OutputAndUndoTest {
         CHECKS.due("63: grow", 1, () -> x.pool(0, 3));
     }
 
+    // Much of everything: events beyond 60, demands beyond 24, errors, misses, members of all kinds.
+    private static PoolScaler busy() {
+        PoolScaler x = Checks.pools("pool 1 9 10;load 90 10 0 50 70 5;cool 0 0;window 2;step 3 4;drop cold;warm 1;cost 3 4;protect 0;"
+            + "pool 2 8 7;load 3 60 60;cool 1 2;policy trend;drop oldest;pool 0 20 3;policy season 3;load 1 2 11;");
+        x.run(70);
+        x.pause(2, true);
+        x.push(1, 40);
+        return x;
+    }
+
+    private static void undoBringsAllBack() {
+        PoolScaler x = busy();
+        String before = Checks.picture(x);
+        x.saveState();
+        x.run(101);
+        x.undo();
+        CHECKS.due("63: run", before, () -> Checks.picture(x));
+        x.hurry(0);
+        x.pause(2, false);
+        x.setPolicy(0, 1, 0);
+        x.transfer(x.nextDropped(1), 2);
+        x.run(99);
+        x.setLoad(0, 2, 444);
+        for (int i = 0; i < 6; i++) {
+            x.undo();
+        }
+        CHECKS.due("63: one after the other", before, () -> Checks.picture(x));
+        x.setPolicy(1, 2, 5);
+        x.run(97);
+        CHECKS.due("65: the time", 70, x::restoreState);
+        CHECKS.due("65: all is as it was", before, () -> Checks.picture(x));
+        x.run(13);
+        PoolScaler y = busy();
+        y.run(13);
+        CHECKS.due("65: goes on alike", Checks.picture(y), () -> Checks.picture(x));
+        String text = "pool 2 9 10;pool 1 5 20;load 9 8 7;pool 1 2 3;";
+        PoolScaler fresh = Checks.pools(text);
+        Checks.load(x, text);
+        CHECKS.due("4: nothing is left behind a load", Checks.picture(fresh), () -> Checks.picture(x));
+        fresh.run(20);
+        x.run(20);
+        CHECKS.due("4: goes on alike", Checks.picture(fresh), () -> Checks.picture(x));
+    }
+
     private static void atMostTen() {
         PoolScaler x = Checks.pools("pool 1 9 10;load 50;");
         for (int i = 1; i <= 13; i++) {
@@ -161,6 +206,7 @@ final class OutputAndUndoTest {
         CHECKS.due("65: the later one", 5, x::restoreState);
         CHECKS.due("65: no error before", 0, x::errorCode);
         Checks.load(x, "pool");
+        CHECKS.due("65: a load that is refused keeps it", 5, x::restoreState);
         Checks.append(x, "pool 1 2 3;");
         x.restoreState();
         CHECKS.due("65: the reported error is not saved", PoolScaler.SYNTAX, x::errorCode);

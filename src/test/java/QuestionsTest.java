@@ -158,6 +158,12 @@ final class QuestionsTest {
         x.run(1);
         CHECKS.due("13: at most 999", 999, () -> x.measure(1));
 
+        PoolScaler small = Checks.pools("pool 1 1 1;window 1;load 1 2 9;");
+        small.run(1);
+        CHECKS.due("13: the least power", 100, () -> small.measure(0));
+        small.run(2);
+        CHECKS.due("13: 900", 900, () -> small.measure(0));
+
         PoolScaler y = Checks.pools("pool 0 9 10;pool 0 9 10;load 1;pool 1 9 100;load 100;");
         CHECKS.due("13: no demand yet, no power", 0, () -> y.measure(0));
         y.run(1);
@@ -183,6 +189,7 @@ final class QuestionsTest {
     private static void nextDropped() {
         PoolScaler x = Checks.pools("pool 3 5 10;protect 2;pool 3 5 10;drop oldest;protect 0;pool 0 5 10;pool 2 5 10;drop cold;");
         CHECKS.due("17: newest", 1, () -> x.nextDropped(0));
+        CHECKS.due("17: the very first member", 0, () -> new PoolScaler().nextDropped(0));
         CHECKS.due("17: oldest", 4, () -> x.nextDropped(1));
         CHECKS.due("17: no members", -1, () -> x.nextDropped(2));
         CHECKS.due("17: cold, a tie", 7, () -> x.nextDropped(3));
@@ -229,6 +236,10 @@ final class QuestionsTest {
         CHECKS.due("22: all is missed", 1.0f, () -> y.missedShare(0));
         CHECKS.due("23: no power at all", 0.0, () -> y.used(0));
         CHECKS.due("25: decisions 3", 2, () -> y.decisions(0, 3));
+        PoolScaler stuck = Checks.pools("pool 1 1 10;protect 0;");
+        stuck.setBounds(0, 0, 1);
+        stuck.run(3);
+        CHECKS.due("25: decisions 5", 3, () -> stuck.decisions(0, 5));
         PoolScaler z = Checks.pools("pool 20 20 1;cost 99 99;load 999;");
         for (int i = 0; i < 50; i++) {
             z.run(300);

@@ -40,6 +40,7 @@ final class SetupTest {
         CHECKS.due("3: truncate to less than 0", false, () -> x.truncateInput(-1));
         CHECKS.due("3: truncate to the least int", false, () -> x.truncateInput(Integer.MIN_VALUE));
         CHECKS.due("3: truncate to the same", true, () -> x.truncateInput(700));
+        CHECKS.due("3: truncate nothing to nothing", true, () -> new PoolScaler().truncateInput(0));
         CHECKS.due("3: truncate to 681", true, () -> x.truncateInput(681));
         CHECKS.due("2: 701 bytes are too many", -1, () -> x.appendInput(0, 0, 0, 0, 0));
         CHECKS.due("3: truncate to 680", true, () -> x.truncateInput(680));
@@ -171,7 +172,7 @@ final class SetupTest {
     }
 
     private static void wrongForm() {
-        String[] texts = {"^;", "^5", "^pools 1 2 3;", "^Pool 1 2 3;", "^step 1 1;", "^load 1;", "^protect 0;", "^watch", "^#",
+        String[] texts = {"^;", "^5", "^pools 1 2 3;", "^zpool 1 2 3;", "^poolz 1 2 3;", "^apool 1 2 3;", "^Pool 1 2 3;", "^step 1 1;", "^load 1;", "^protect 0;", "^watch", "^#",
             "pool ^x 2 3;", "pool ^; ", "pool 1 2 ^;", "pool 1 2 3 ^4;", "pool 1 2 3 ^pool", "pool 1 2 3^", "pool^", "pool 1^", "pool 1 2 \n^",
             "pool ^0001 2 3;", "pool 1 ^-2 3;", "pool 1 2 3;^;", "pool 1 2 3;^newest;", "pool 1 2 3; ^Step 1 1;", "pool 1 2 3;^7",
             "pool 1 2 3; step 1 ^;", "pool 1 2 3; step 1 1 ^1;", "pool 1 2 3; step ^up 1;", "pool 1 2 3; target 10^",
